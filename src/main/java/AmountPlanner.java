@@ -391,14 +391,18 @@ public final class AmountPlanner {
             loose = loosely;
             int leastCost = 0;
             for (int j = 0; j < problem.amounts; j++) {
+                settled[j] = problem.leasts[j];
                 leastCost += problem.leastCost(j);
             }
             settle(problem, minors, 0, 0, leastCost);
         }
 
-        /** Goes on with amount j; no plan that comes of it costs less than leastCost. */
+        /**
+         * Goes on with amount j. What is free or not settled yet stands at its least, so no plan
+         * that comes of it is better than leastCost and the settled amounts.
+         */
         private void settle(Problem problem, Minors minors, int j, int free, int leastCost) {
-            if (found && (long) leastCost * bestDivisor > bestCost) {
+            if (!isBetter(problem, settled, leastCost, 1) || !canBeKept(problem, j, free)) {
                 return;
             }
             if (j >= problem.amounts) {
@@ -407,22 +411,44 @@ public final class AmountPlanner {
             }
             boolean whole = problem.wholes[j] && !loose;
             int least = problem.leasts[j];
-            int most = problem.mosts[j];
-            int step = whole || least == most ? 1 : most - least;
+            int width = problem.mosts[j] - least;
+            int step = whole || width == 0 ? 1 : width;
             int others = leastCost - problem.leastCost(j);
-            for (int value = least; value <= most; value += step) {
-                settled[j] = value;
-                settle(problem, minors, j + 1, free, others + problem.costs[j] * value);
+            // The cheapest value comes first: the sooner a good plan is found, the less is tried.
+            for (int k = 0; k <= width; k += step) {
+                settled[j] = least + (problem.costs[j] < 0 ? width - k : k);
+                settle(problem, minors, j + 1, free, others + problem.costs[j] * settled[j]);
             }
-            if (!whole && least < most) {
+            settled[j] = least;
+            if (!whole && width > 0) {
                 settle(problem, minors, j + 1, free | 1 << j, leastCost);
             }
         }
 
+        /** Whether each limit, by itself, can be kept with the amounts settled before j. */
+        private boolean canBeKept(Problem problem, int j, int free) {
+            for (int i = 0; i < problem.limits; i++) {
+                int sum = 0;
+                for (int k = 0; k < problem.amounts; k++) {
+                    int weight = problem.weights[i][k];
+                    boolean open = k >= j || (free >> k & 1) != 0;
+                    sum += weight * (open && weight < 0 ? problem.mosts[k] : settled[k]);
+                }
+                if (sum > problem.bounds[i]) {
+                    return false;
+                }
+            }
+            return true;
+        }
+
         private void tryCorners(Problem problem, Minors minors, int free) {
+            if (free == 0) {
+                tryCorner(problem, minors, 0, 0);
+                return;
+            }
             setRests(problem, free);
             int size = Integer.bitCount(free);
-            for (int tight = 0; tight < 1 << problem.limits; tight++) {
+            for (int tight = 1; tight < 1 << problem.limits; tight++) {
                 if (Integer.bitCount(tight) == size) {
                     tryCorner(problem, minors, free, tight);
                 }
@@ -452,7 +478,7 @@ public final class AmountPlanner {
                         : settled[j] * divisor;
             }
             int trialCost = (int) problem.weigh(problem.costs, trial);
-            if (isBetter(problem, trialCost, divisor) && problem.isKept(trial, divisor)) {
+            if (isBetter(problem, trial, trialCost, divisor) && problem.isKept(trial, divisor)) {
                 take(trialCost, divisor);
             }
         }
@@ -467,13 +493,14 @@ public final class AmountPlanner {
             return sum;
         }
 
-        private boolean isBetter(Problem problem, int trialCost, int divisor) {
+        /** Whether x / divisor, which costs xCost / divisor, comes before what was found. */
+        private boolean isBetter(Problem problem, int[] x, int xCost, int divisor) {
             if (!found) {
                 return true;
             }
-            long less = (long) bestCost * divisor - (long) trialCost * bestDivisor;
+            long less = (long) bestCost * divisor - (long) xCost * bestDivisor;
             for (int j = 0; j < problem.amounts && less == 0; j++) {
-                less = (long) best[j] * divisor - (long) trial[j] * bestDivisor;
+                less = (long) best[j] * divisor - (long) x[j] * bestDivisor;
             }
             return less > 0;
         }
