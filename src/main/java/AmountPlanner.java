@@ -1,5 +1,3 @@
-import java.util.Arrays;
-
 /**
  * A planner for a few amounts, some of them whole, within bounds and limits: the least cost, the
  * first of the plans that have it, and trees that prove that there is none cheaper.
@@ -153,7 +151,7 @@ public final class AmountPlanner {
             throw new IllegalArgumentException("a bound is -1000000 to 1000000 by 1 to 1000000");
         }
         box.open(problem, p, q);
-        return tree.holds(problem, box, 0, 0);
+        return tree.holds(problem, box);
     }
 
     public boolean prove() throws IllegalStateException {
@@ -163,7 +161,7 @@ public final class AmountPlanner {
         box.open(problem, search.bestCost, search.bestDivisor);
         // Nothing was changed since solve(), so the minors are still those of the problem.
         proof.gather(problem, minors, search.found);
-        return proof.holds(problem, box, 0);
+        return proof.holds(problem, box);
     }
 
     private void checkAmount(int j) {
@@ -605,8 +603,12 @@ public final class AmountPlanner {
             ends[at + 2] = c;
         }
 
+        boolean holds(Problem problem, Box box) {
+            return isSoundAt(problem, box, 0, 0);
+        }
+
         /** Whether a node is sound in the box. A fork names greater nodes, so depth stays low. */
-        boolean holds(Problem problem, Box box, int node, int depth) {
+        private boolean isSoundAt(Problem problem, Box box, int node, int depth) {
             if (depth >= NODES || kinds[node] == NOTHING) {
                 return false;
             }
@@ -622,13 +624,13 @@ public final class AmountPlanner {
                 return false;
             }
             box.mosts[j] = v;
-            boolean first = holds(problem, box, firsts[node], depth + 1);
+            boolean first = isSoundAt(problem, box, firsts[node], depth + 1);
             box.mosts[j] = most;
             if (!first) {
                 return false;
             }
             box.leasts[j] = v + 1;
-            boolean second = holds(problem, box, seconds[node], depth + 1);
+            boolean second = isSoundAt(problem, box, seconds[node], depth + 1);
             box.leasts[j] = least;
             return second;
         }
@@ -696,12 +698,14 @@ public final class AmountPlanner {
             }
         }
 
-        /** Whether the tree that is made for the box is sound. */
-        boolean holds(Problem problem, Box box, int depth) {
-            for (int end = 0; end < ends; end++) {
-                if (box.isEndedBy(rows, end * Box.ROW)) {
-                    return true;
-                }
+        boolean holds(Problem problem, Box box) {
+            return isSoundIn(problem, box, 0);
+        }
+
+        /** Makes an END for the box, or else a FORK: whether what is made is sound. */
+        private boolean isSoundIn(Problem problem, Box box, int depth) {
+            if (hasEnd(box)) {
+                return true;
             }
             int j = widest(problem, box);
             if (j < 0 || depth >= DEEPEST) {
@@ -711,15 +715,24 @@ public final class AmountPlanner {
             int most = box.mosts[j];
             int v = Math.floorDiv(least + most, 2);
             box.mosts[j] = v;
-            boolean first = holds(problem, box, depth + 1);
+            boolean first = isSoundIn(problem, box, depth + 1);
             box.mosts[j] = most;
             if (!first) {
                 return false;
             }
             box.leasts[j] = v + 1;
-            boolean second = holds(problem, box, depth + 1);
+            boolean second = isSoundIn(problem, box, depth + 1);
             box.leasts[j] = least;
             return second;
+        }
+
+        private boolean hasEnd(Box box) {
+            for (int end = 0; end < ends; end++) {
+                if (box.isEndedBy(rows, end * Box.ROW)) {
+                    return true;
+                }
+            }
+            return false;
         }
 
         /** The whole amount with the most values, or -1 if each has one value alone. */
