@@ -1,11 +1,15 @@
+import java.lang.reflect.Field;
+import java.util.Random;
+
 /** Promise 15: prove. */
 public final class ProveTest {
-    public static void main(String[] args) {
+    public static void main(String[] args) throws ReflectiveOperationException {
         states();
         treeStays();
         manyWholeValues();
         noPlan();
         fractions();
+        whatIsWrongIsNotProved();
         Check.close();
     }
 
@@ -108,5 +112,38 @@ public final class ProveTest {
             Check.due("solve", true, () -> x.solve(false));
             Check.due("prove", true, x::prove);
         }
+    }
+
+    /** From outside prove() is always true, so what was solved is made wrong from inside here. */
+    private static void whatIsWrongIsNotProved() throws ReflectiveOperationException {
+        Random random = new Random(11);
+        for (int k = 0; k < 300; k++) {
+            AmountPlanner x = new AmountPlanner();
+            x.start(4);
+            for (int j = 0; j < 4; j++) {
+                x.amount(j, -4, 4, random.nextInt(4) > 0);
+                x.cost(j, random.nextInt(19) - 9);
+            }
+            for (int i = 0; i < 6; i++) {
+                x.limit(random.nextInt(19) - 9, random.nextInt(19) - 9, random.nextInt(19) - 9,
+                        random.nextInt(19) - 9, random.nextInt(30));
+            }
+            Check.due("solve", true, () -> x.solve(false));
+            Check.due("prove", true, x::prove);
+            Object search = field(AmountPlanner.class, "search").get(x);
+            Field cost = field(search.getClass(), "bestCost");
+            cost.setInt(search, cost.getInt(search) + 1);
+            Check.due("a greater cost is not proved", false, x::prove);
+            cost.setInt(search, cost.getInt(search) - 2);
+            Check.due("a cost below the least is proved, too", true, x::prove);
+            field(search.getClass(), "found").setBoolean(search, false);
+            Check.due("that there is no plan is not proved", false, x::prove);
+        }
+    }
+
+    private static Field field(Class<?> type, String name) throws ReflectiveOperationException {
+        Field field = type.getDeclaredField(name);
+        field.setAccessible(true);
+        return field;
     }
 }
