@@ -410,12 +410,13 @@ public final class AmountPlanner {
             boolean whole = problem.wholes[j] && !loose;
             int least = problem.leasts[j];
             int width = problem.mosts[j] - least;
-            int step = whole || width == 0 ? 1 : width;
             int others = leastCost - problem.leastCost(j);
             // The cheapest value comes first: the sooner a good plan is found, the less is tried.
-            for (int k = 0; k <= width; k += step) {
-                settled[j] = least + (problem.costs[j] < 0 ? width - k : k);
-                settle(problem, minors, j + 1, free, others + problem.costs[j] * settled[j]);
+            for (int k = 0; k <= width; k++) {
+                if (whole || k == 0 || k == width) {
+                    settled[j] = least + (problem.costs[j] < 0 ? width - k : k);
+                    settle(problem, minors, j + 1, free, others + problem.costs[j] * settled[j]);
+                }
             }
             settled[j] = least;
             if (!whole && width > 0) {
