@@ -1,51 +1,120 @@
 /** Promise 3: amount. */
 public final class AmountTest {
     public static void main(String[] args) {
-        AmountPlanner x = new AmountPlanner();
-        x.start(3);
-        for (int bad : new int[] {-1, 3, 4, Integer.MIN_VALUE, Integer.MAX_VALUE}) {
-            Check.badIndex("amount " + bad, () -> x.amount(bad, 0, 1, true));
-            Check.badIndex("the index comes first", () -> x.amount(bad, 21, -21, true));
-        }
-        int low = Integer.MIN_VALUE;
-        int high = Integer.MAX_VALUE;
-        int[][] bad = {{-21, 0}, {0, 21}, {21, 21}, {-21, -21}, {1, 0}, {20, -20}, {low, high}, {high, low}, {low, low}, {high, high}};
-        for (int[] pair : bad) {
-            Check.badArgument(pair[0] + " to " + pair[1], () -> x.amount(0, pair[0], pair[1], false));
-            Check.badArgument(pair[0] + " to " + pair[1], () -> x.amount(0, pair[0], pair[1], true));
-        }
-        Check.badArgument("whole, 9 wide", () -> x.amount(1, 0, 9, true));
-        Check.badArgument("whole, 40 wide", () -> x.amount(1, -20, 20, true));
-        Check.passes("whole, 8 wide", () -> x.amount(1, -20, -12, true));
-        Check.passes("whole, 8 wide", () -> x.amount(1, 12, 20, true));
-        Check.passes("not whole, 40 wide", () -> x.amount(2, -20, 20, false));
-        Check.passes("one value", () -> x.amount(0, 20, 20, true));
-        Check.due("solve", true, () -> x.solve(false));
-        Check.due("the leasts", "0/1: 20/1 12/1 -20/1", () -> Check.told(x, 3));
-        x.cost(1, -1);
-        x.cost(2, -1);
-        Check.due("solve", true, () -> x.solve(false));
-        Check.due("the mosts", "-40/1: 20/1 20/1 20/1", () -> Check.told(x, 3));
-        changesAndForgets();
+        withinTwenty();
+        inOrder();
+        atMostEightWide();
+        whatIsToldHolds();
+        noSuchAmount();
         Check.close();
     }
 
-    private static void changesAndForgets() {
+    private static AmountPlanner planner() {
         AmountPlanner x = new AmountPlanner();
-        x.start(1);
-        x.cost(0, -1);
-        x.limit(2, 0, 0, 0, 7);
-        x.solve(false);
-        Check.due("whole", "-3/1: 3/1", () -> Check.told(x, 1));
-        Check.badArgument("refused", () -> x.amount(0, 2, 1, false));
-        Check.due("a refused one changes nothing", "-3/1: 3/1", () -> Check.told(x, 1));
-        Check.due("nor what is whole", false, () -> x.keeps(7, 0, 0, 0, 2));
-        x.amount(0, 0, 8, false);
-        Check.badState("a change forgets", () -> x.total(0));
-        x.solve(false);
-        Check.due("any fraction", "-7/2: 7/2", () -> Check.told(x, 1));
-        x.amount(0, 0, 8, false);
-        Check.badState("the same again forgets, too", () -> x.plan(0, 0));
-        Check.badState("the same again forgets, too", x::prove);
+        x.start(3);
+        return x;
+    }
+
+    private static void withinTwenty() {
+        Check.sentence(3, "An amount's LEAST and MOST, -20 .. 20,");
+        AmountPlanner x = planner();
+        for (boolean whole : new boolean[] {false, true}) {
+            Check.passes("-20 to -20", () -> x.amount(0, -20, -20, whole));
+            Check.passes("-20 to -12", () -> x.amount(0, -20, -12, whole));
+            Check.passes("12 to 20", () -> x.amount(0, 12, 20, whole));
+            Check.passes("20 to 20", () -> x.amount(0, 20, 20, whole));
+            for (int far : Check.outside(-20, 20)) {
+                Check.badArgument("both are " + far, () -> x.amount(0, far, far, whole));
+                Check.badArgument("the least is " + far, () -> x.amount(0, far, 20, whole));
+                Check.badArgument("the least is " + far, () -> x.amount(0, far, -20, whole));
+                Check.badArgument("the most is " + far, () -> x.amount(0, -20, far, whole));
+                Check.badArgument("the most is " + far, () -> x.amount(0, 20, far, whole));
+            }
+            Check.badArgument("-21 to -20", () -> x.amount(0, -21, -20, whole));
+            Check.badArgument("20 to 21", () -> x.amount(0, 20, 21, whole));
+        }
+        Check.passes("-20 to 20", () -> x.amount(0, -20, 20, false));
+        Check.badArgument("-21 to 20", () -> x.amount(0, -21, 20, false));
+        Check.badArgument("-20 to 21", () -> x.amount(0, -20, 21, false));
+    }
+
+    private static void inOrder() {
+        Check.sentence(3, "the first one not above the second one,");
+        AmountPlanner x = planner();
+        for (boolean whole : new boolean[] {false, true}) {
+            for (int least = -20; least <= 20; least++) {
+                int at = least;
+                Check.passes(least + " twice", () -> x.amount(1, at, at, whole));
+                if (least > -20) {
+                    Check.badArgument(least + " and one less", () -> x.amount(1, at, at - 1, whole));
+                }
+            }
+            Check.badArgument("20 to -20", () -> x.amount(1, 20, -20, whole));
+            Check.badArgument("far above", () -> x.amount(1, Integer.MAX_VALUE, Integer.MIN_VALUE, whole));
+        }
+    }
+
+    private static void atMostEightWide() {
+        Check.sentence(3, "if it is WHOLE not more than 8 below it.");
+        for (int least = -20; least <= 20; least++) {
+            AmountPlanner x = planner();
+            for (int most = least; most <= 20; most++) {
+                int from = least;
+                int to = most;
+                Check.passes(from + " to " + to, () -> x.amount(2, from, to, false));
+                if (to - from <= 8) {
+                    Check.passes(from + " to " + to + ", whole", () -> x.amount(2, from, to, true));
+                } else {
+                    Check.badArgument(from + " to " + to + ", whole", () -> x.amount(2, from, to, true));
+                }
+            }
+        }
+        AmountPlanner x = planner();
+        // The width of these wraps around to something small.
+        Check.badArgument("all numbers", () -> x.amount(2, Integer.MIN_VALUE, Integer.MAX_VALUE, true));
+        Check.badArgument("all numbers", () -> x.amount(2, Integer.MIN_VALUE, Integer.MAX_VALUE, false));
+        Check.badArgument("from the last to the first",
+                () -> x.amount(2, Integer.MAX_VALUE, Integer.MIN_VALUE + 7, true));
+    }
+
+    /** Not a sentence of its own: the numbers that are taken are those that count. */
+    private static void whatIsToldHolds() {
+        int[][] pairs = {{-20, -12}, {-20, -20}, {12, 20}, {20, 20}, {-4, 4}, {0, 0}, {-1, 0}, {0, 1}};
+        for (int[] pair : pairs) {
+            for (int j = 0; j < 3; j++) {
+                AmountPlanner x = planner();
+                int at = j;
+                x.amount(j, pair[0], pair[1], true);
+                Check.due("the least", pair[0], () -> x.solve(false) ? x.plan(at, 0) : 99);
+                x.cost(j, -1);
+                Check.due("the most", pair[1], () -> x.solve(false) ? x.plan(at, 0) : 99);
+                Check.due("the others stay", 0, () -> x.plan((at + 1) % 3, 0) + x.plan((at + 2) % 3, 0));
+            }
+        }
+        AmountPlanner x = planner();
+        x.amount(1, -20, 20, false);
+        Check.due("any fraction", true, () -> x.keeps(0, -19999, 0, 0, 1000));
+        x.amount(1, -20, -12, true);
+        Check.due("whole", false, () -> x.keeps(0, -19999, 0, 0, 1000));
+    }
+
+    private static void noSuchAmount() {
+        Check.sentence(3, "IndexOutOfBoundsException; IllegalArgumentException.");
+        for (int n = 1; n <= 4; n++) {
+            AmountPlanner x = new AmountPlanner();
+            x.start(n);
+            for (int j : Check.outside(0, n - 1)) {
+                Check.badIndex("amount " + j + " of " + n, () -> x.amount(j, 0, 8, true));
+                Check.badIndex("the index comes first", () -> x.amount(j, -21, 0, true));
+                Check.badIndex("the index comes first", () -> x.amount(j, 0, 21, true));
+                Check.badIndex("the index comes first", () -> x.amount(j, 1, 0, false));
+                Check.badIndex("the index comes first", () -> x.amount(j, 0, 9, true));
+            }
+            for (int j = 0; j < n; j++) {
+                int at = j;
+                Check.passes("amount " + j + " of " + n, () -> x.amount(at, 0, 8, true));
+                Check.badArgument("amount " + j + " of " + n, () -> x.amount(at, 0, 9, true));
+            }
+        }
     }
 }

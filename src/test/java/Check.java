@@ -1,15 +1,37 @@
+import java.util.TreeSet;
 import java.util.concurrent.Callable;
 
 /** What the tests share: answers as texts, and a count of those that are wrong. */
 final class Check {
+    static final int TERMS = 0;
+
     private static int wrong = 0;
     private static int looked = 0;
+    private static String sentence = "";
+    private static int lookedBefore = 0;
 
     interface Action {
         void run() throws Exception;
     }
 
     private Check() {
+    }
+
+    /**
+     * Begins the test of a sentence of the document: of a promise, or of 'Terms' (TERMS). It is
+     * quoted as it stands there, so that SentencesTest can see that none was left out.
+     */
+    static void sentence(int promise, String quote) {
+        closeSentence();
+        sentence = (promise == TERMS ? "Terms" : "promise " + promise) + ", '" + quote + "': ";
+        lookedBefore = looked;
+    }
+
+    private static void closeSentence() {
+        if (!sentence.isEmpty() && looked == lookedBefore) {
+            wrong++;
+            System.out.println(sentence + "no answer was looked at");
+        }
     }
 
     /** The answer of a call, or throws. and the name of its exception. */
@@ -26,7 +48,7 @@ final class Check {
         looked++;
         if (!got.equals(String.valueOf(want))) {
             wrong++;
-            System.out.println(what + " answered " + got + ", due is " + want);
+            System.out.println(sentence + what + " answered " + got + ", due is " + want);
         }
     }
 
@@ -55,6 +77,26 @@ final class Check {
         return "nothing thrown";
     }
 
+    /**
+     * Numbers that are not low .. high: the first ones on each side, some that would be inside in a
+     * type of 8 or 16 bits, and the last ones that there are.
+     */
+    static int[] outside(int low, int high) {
+        TreeSet<Integer> numbers = new TreeSet<>();
+        for (int far : new int[] {256, 65536, 1 << 24}) {
+            numbers.add(low - far);
+            numbers.add(low + far);
+            numbers.add(high - far);
+            numbers.add(high + far);
+        }
+        numbers.removeIf(x -> x >= low && x <= high);
+        numbers.add(low - 1);
+        numbers.add(high + 1);
+        numbers.add(Integer.MIN_VALUE);
+        numbers.add(Integer.MAX_VALUE);
+        return numbers.stream().mapToInt(Integer::intValue).toArray();
+    }
+
     /** The total and the amounts of the latest solve, as fractions. */
     static String told(AmountPlanner x, int amounts) {
         StringBuilder text = new StringBuilder();
@@ -65,8 +107,14 @@ final class Check {
         return text.toString();
     }
 
+    /** Solves, and tells the total and the amounts. */
+    static String solved(AmountPlanner x, boolean loosely, int amounts) {
+        return x.solve(loosely) ? told(x, amounts) : "no plan";
+    }
+
     /** Ends a test: with exit code 1 if an answer was wrong, or if none was looked at. */
     static void close() {
+        closeSentence();
         System.out.println(looked + " answers looked at, " + wrong + " wrong");
         if (wrong > 0 || looked == 0) {
             System.exit(1);

@@ -4,101 +4,113 @@ import java.util.Random;
 /** Promise 15: prove. */
 public final class ProveTest {
     public static void main(String[] args) throws ReflectiveOperationException {
-        states();
+        treeOfItsOwn();
         treeStays();
-        manyWholeValues();
+        notLoosely();
+        asManyNodesAsItTakes();
+        costOfTheBest();
         noPlan();
-        fractions();
-        whatIsWrongIsNotProved();
+        alwaysSound();
+        solvedLoosely();
+        notSolved();
+        changedSince();
         Check.close();
     }
 
-    private static void states() {
-        AmountPlanner x = new AmountPlanner();
-        Check.badState("nothing was solved", x::prove);
-        x.solve(true);
-        Check.badState("loosely", x::prove);
-        x.solve(false);
-        Check.due("solved", true, x::prove);
-        Check.due("solved, again", true, x::prove);
-        x.solve(true);
-        Check.badState("the latest was loosely", x::prove);
-        Check.due("the plan stays", 0, () -> x.total(0));
-        changes(x);
-        x.solve(false);
-        Check.badIndex("refused", () -> x.amount(1, 0, 0, true));
-        Check.badIndex("refused", () -> x.cost(1, 0));
-        Check.badArgument("refused", () -> x.limit(10, 0, 0, 0, 0));
-        Check.badIndex("refused", () -> x.drop(0));
-        Check.badArgument("refused", () -> x.start(0));
-        Check.due("refused ones change nothing", true, x::prove);
-    }
-
-    private static void changes(AmountPlanner x) {
-        Check.Action[] changes = {() -> x.amount(0, 0, 0, true), () -> x.cost(0, 0),
-                () -> x.limit(0, 0, 0, 0, 0), () -> x.drop(0), () -> x.start(1)};
-        for (Check.Action change : changes) {
-            x.solve(false);
-            Check.due("solved", true, x::prove);
-            Check.passes("a change", change);
-            Check.badState("changed since", x::prove);
-        }
-    }
-
-    private static void treeStays() {
+    /** Two whole amounts: the best costs -4, loosely -9 / 2. */
+    private static AmountPlanner planner() {
         AmountPlanner x = new AmountPlanner();
         x.start(2);
         x.limit(2, 2, 0, 0, 9);
         x.cost(0, -1);
         x.cost(1, -1);
+        return x;
+    }
+
+    private static void treeOfItsOwn() {
+        Check.sentence(15, "The planner makes a tree of its own");
+        AmountPlanner x = planner();
+        x.solve(false);
+        Check.due("nothing was told", true, x::prove);
+        x.end(0, 0, 0, 0, 0, 0, 0, 0);
+        Check.due("a tree that proves nothing was told", true, x::prove);
+        for (int node = 0; node < 39; node++) {
+            x.fork(node, 3, 20, node + 1, node + 1);
+        }
+        Check.due("a full tree that proves nothing was told", true, x::prove);
+        Check.due("it proves nothing", false, () -> x.sound(-1000000, 1));
+    }
+
+    private static void treeStays() {
+        Check.sentence(15, "(the TREE stays as it was told;");
+        AmountPlanner x = planner();
         x.solve(false);
         Check.due("prove", true, x::prove);
-        Check.due("the tree is nothing still", false, () -> x.sound(-4, 1));
+        Check.due("node 0 is NOTHING still", false, () -> x.sound(-1000000, 1));
+        for (int node = 1; node < 40; node++) {
+            x.fork(0, 0, 0, node, node);
+            Check.due("node " + node + " is NOTHING still", false, () -> x.sound(-1000000, 1));
+        }
         x.end(0, 2, 1, 0, 0, 0, 0, 0);
         Check.due("prove", true, x::prove);
-        Check.due("the end is as told", true, () -> x.sound(-9, 2));
-        Check.due("the end is as told", false, () -> x.sound(-4, 1));
+        Check.due("the END is as told", true, () -> x.sound(-9, 2));
+        Check.due("the END is as told", false, () -> x.sound(-4, 1));
+        x.fork(0, 0, 0, 1, 39);
+        x.end(1, 1, 0, 0, 0, 0, 0, 0);
+        x.end(39, 2, 1, 0, 0, 0, 0, 0);
+        Check.due("prove", true, x::prove);
+        Check.due("the FORK is as told", true, () -> x.sound(-8, 1));
+        Check.due("the FORK is as told", false, () -> x.sound(-7, 1));
+        for (int node = 1; node < 40; node++) {
+            x.end(node, 1, 0, node, 0, 0, 0, 0);
+        }
+        x.limit(0, 0, 0, 0, -1);
+        Check.due("no plan", false, () -> x.solve(false));
+        Check.due("prove", true, x::prove);
+        for (int node = 1; node < 40; node++) {
+            int bound = node - 16;
+            x.fork(0, 0, 0, node, node);
+            Check.due("node " + node + " is as told", true, () -> x.sound(bound, 1));
+            Check.due("node " + node + " is as told", false, () -> x.sound(bound + 1, 1));
+        }
+        x.drop(1);
+        x.solve(false);
+        Check.due("prove", true, x::prove);
         Check.due("the plan stays", "-4/1: 0/1 4/1", () -> Check.told(x, 2));
     }
 
-    /** An even sum is never odd: no end is sound before nearly all amounts have one value. */
-    private static void manyWholeValues() {
+    private static void notLoosely() {
+        Check.sentence(15, "not LOOSELY;");
+        AmountPlanner x = planner();
+        x.solve(true);
+        x.solve(false);
+        Check.due("for -4, and not for -9 / 2", "true -4", () -> x.prove() + " " + x.total(0));
+        x.drop(0);
+        x.limit(2, 2, 0, 0, 9);
+        x.limit(-2, -2, 0, 0, -9);
+        Check.due("loosely there is a plan", true, () -> x.solve(true));
+        Check.due("but none that is whole", false, () -> x.solve(false));
+        Check.due("and this is proved", true, x::prove);
+    }
+
+    /** An even sum is never odd: no END is sound before nearly all amounts have one value. */
+    private static void asManyNodesAsItTakes() {
+        Check.sentence(15, "of as many nodes as it takes, with fractions 0 or more as w and y)");
         AmountPlanner x = new AmountPlanner();
         x.start(4);
         x.limit(8, 6, 4, 2, 81);
         x.limit(-8, -6, -4, -2, -81);
         Check.due("no plan", false, () -> x.solve(false));
-        Check.due("prove", true, x::prove);
+        Check.due("far more than 40", true, x::prove);
         x.drop(1);
         for (int j = 0; j < 4; j++) {
             x.cost(j, 2 * j - 8);
         }
         Check.due("solve", true, () -> x.solve(false));
         Check.due("the nearest is 80", -80, () -> x.total(0));
-        Check.due("prove", true, x::prove);
-    }
-
-    private static void noPlan() {
-        AmountPlanner x = new AmountPlanner();
-        x.start(3);
-        x.amount(1, -20, 20, false);
-        x.limit(1, 1, 1, 0, -21);
-        Check.due("no plan", false, () -> x.solve(false));
-        Check.due("prove", true, x::prove);
-        x.cost(0, -9);
-        x.cost(1, 9);
-        Check.due("no plan, with costs", false, () -> x.solve(false));
-        Check.due("prove", true, x::prove);
-        x.drop(0);
-        x.limit(0, 0, 0, 0, -1);
-        Check.due("a limit of nothing", false, () -> x.solve(false));
-        Check.due("prove", true, x::prove);
-    }
-
-    private static void fractions() {
-        AmountPlanner x = new AmountPlanner();
-        x.start(4);
+        Check.due("far more than 40", true, x::prove);
         int[] costs = {-7, -9, -6, -8};
+        x.start(4);
         for (int j = 0; j < 4; j++) {
             x.cost(j, costs[j]);
         }
@@ -110,12 +122,13 @@ public final class ProveTest {
                 x.amount(j, 0, 8, (fractions >> j & 1) == 0);
             }
             Check.due("solve", true, () -> x.solve(false));
-            Check.due("prove", true, x::prove);
+            Check.due("w and y that are not whole", true, x::prove);
         }
     }
 
     /** From outside prove() is always true, so what was solved is made wrong from inside here. */
-    private static void whatIsWrongIsNotProved() throws ReflectiveOperationException {
+    private static void costOfTheBest() throws ReflectiveOperationException {
+        Check.sentence(15, "for the COST of the BEST plan,");
         Random random = new Random(11);
         for (int k = 0; k < 300; k++) {
             AmountPlanner x = new AmountPlanner();
@@ -145,5 +158,119 @@ public final class ProveTest {
         Field field = type.getDeclaredField(name);
         field.setAccessible(true);
         return field;
+    }
+
+    private static void noPlan() {
+        Check.sentence(15, "or, if there is none, with ENDS of w 0 alone:");
+        AmountPlanner x = new AmountPlanner();
+        x.start(3);
+        x.amount(1, -20, 20, false);
+        x.limit(1, 1, 1, 0, -20);
+        Check.due("a plan", true, () -> x.solve(false));
+        Check.due("prove", true, x::prove);
+        x.drop(0);
+        x.limit(1, 1, 1, 0, -21);
+        Check.due("no plan", false, () -> x.solve(false));
+        Check.due("prove", true, x::prove);
+        x.cost(0, -9);
+        x.cost(1, 9);
+        Check.due("no plan, with costs", false, () -> x.solve(false));
+        Check.due("prove", true, x::prove);
+        x.drop(0);
+        x.limit(0, 0, 0, 0, -1);
+        Check.due("a limit of nothing", false, () -> x.solve(false));
+        Check.due("prove", true, x::prove);
+        AmountPlanner one = new AmountPlanner();
+        one.limit(1, 0, 0, 0, -1);
+        Check.due("one value, no plan", false, () -> one.solve(false));
+        Check.due("prove", true, one::prove);
+    }
+
+    private static void alwaysSound() {
+        Check.sentence(15, "whether it is SOUND. (It always is.)");
+        AmountPlanner fresh = new AmountPlanner();
+        fresh.solve(false);
+        Check.due("of a new object", true, fresh::prove);
+        Check.due("a second time", true, fresh::prove);
+        for (int n = 1; n <= 4; n++) {
+            for (int wholes = 0; wholes < 1 << n; wholes++) {
+                AmountPlanner x = new AmountPlanner();
+                x.start(n);
+                for (int j = 0; j < n; j++) {
+                    boolean whole = (wholes >> j & 1) != 0;
+                    x.amount(j, whole ? -4 : -20, whole ? 4 : 20, whole);
+                    x.cost(j, 9 - 5 * j);
+                }
+                for (int i = 0; i <= 6; i++) {
+                    boolean plan = x.solve(false);
+                    Check.due(n + " amounts, " + i + " limits, a plan: " + plan, true, x::prove);
+                    if (i < 6) {
+                        x.limit(i - 7, n > 1 ? 5 - 2 * i : 0, n > 2 ? 3 : 0, n > 3 ? i - 2 : 0, 7 - 4 * i);
+                    }
+                }
+            }
+        }
+    }
+
+    private static void solvedLoosely() {
+        Check.sentence(15, "IllegalStateException: the latest solve() was LOOSELY,");
+        AmountPlanner x = planner();
+        x.solve(true);
+        Check.badState("loosely", x::prove);
+        Check.badState("loosely, again", x::prove);
+        Check.due("the plan stays", "-9/2: 0/1 9/2", () -> Check.told(x, 2));
+        x.solve(false);
+        Check.due("not loosely", true, x::prove);
+        x.solve(true);
+        Check.badState("the latest was loosely", x::prove);
+        x.amount(0, 0, 8, false);
+        x.amount(1, 0, 8, false);
+        x.solve(true);
+        Check.badState("loosely, though no amount is WHOLE", x::prove);
+        x.limit(0, 0, 0, 0, -1);
+        x.solve(true);
+        Check.badState("loosely, without a plan", x::prove);
+        x.solve(false);
+        Check.due("not loosely, without a plan", true, x::prove);
+    }
+
+    private static void notSolved() {
+        Check.sentence(15, "or there was none,");
+        AmountPlanner fresh = new AmountPlanner();
+        Check.badState("of a new object", fresh::prove);
+        AmountPlanner x = planner();
+        Check.badState("not solved yet", x::prove);
+        x.keeps(0, 0, 0, 0, 1);
+        x.end(0, 1, 0, 0, 0, 0, 0, 0);
+        x.sound(0, 1);
+        Check.badState("not solved yet", x::prove);
+        x.solve(false);
+        Check.due("solved", true, x::prove);
+    }
+
+    private static void changedSince() {
+        Check.sentence(15, "or the problem was changed since.");
+        AmountPlanner x = new AmountPlanner();
+        Check.Action[] changes = {() -> x.amount(0, 0, 0, true), () -> x.cost(0, 0),
+            () -> x.limit(0, 0, 0, 0, 0), () -> x.drop(0), () -> x.start(1)};
+        for (Check.Action change : changes) {
+            x.solve(false);
+            Check.due("solved", true, x::prove);
+            Check.passes("a change", change);
+            Check.badState("changed since", x::prove);
+            Check.badState("changed since", x::prove);
+        }
+        x.solve(false);
+        Check.badIndex("refused", () -> x.amount(1, 0, 0, true));
+        Check.badArgument("refused", () -> x.amount(0, 1, 0, true));
+        Check.badIndex("refused", () -> x.cost(1, 0));
+        Check.badArgument("refused", () -> x.cost(0, 10));
+        Check.badArgument("refused", () -> x.limit(10, 0, 0, 0, 0));
+        Check.badIndex("refused", () -> x.drop(0));
+        Check.badArgument("refused", () -> x.start(0));
+        x.fork(0, 0, 0, 1, 1);
+        x.end(0, 1, 0, 0, 0, 0, 0, 0);
+        x.clear(0);
+        Check.due("refused ones and the tree change no problem", true, x::prove);
     }
 }

@@ -1,14 +1,16 @@
 import java.util.Random;
 
-/** All promises: runs of 512 calls, right and wrong ones, each compared with the Reference. */
+/** All promises: runs of 512 calls at most, right and wrong ones, each compared with the Reference. */
 public final class RandomRunsTest {
-    private static final int RUNS = 60;
+    private static final int RUNS = 80;
     private static final int CALLS = 512;
+    private static final int MOST_CALLS_OF_A_STEP = 18;
 
     private final Random random;
     private final AmountPlanner x = new AmountPlanner();
     private final Reference y = new Reference();
     private int solves = 0;
+    private int calls = 0;
 
     private RandomRunsTest(int seed) {
         random = new Random(seed);
@@ -17,8 +19,8 @@ public final class RandomRunsTest {
     public static void main(String[] args) {
         for (int run = 0; run < RUNS; run++) {
             RandomRunsTest test = new RandomRunsTest(run);
-            for (int call = 0; call < CALLS; call++) {
-                test.step("run " + run + ", call " + call + ": ");
+            while (test.calls + MOST_CALLS_OF_A_STEP <= CALLS) {
+                test.step("run " + run + ", call " + test.calls + ": ");
             }
         }
         Check.close();
@@ -44,6 +46,7 @@ public final class RandomRunsTest {
     }
 
     private void compareAnswers(String what, java.util.concurrent.Callable<?> first, java.util.concurrent.Callable<?> second) {
+        calls++;
         Check.due(what, Check.answer(second), first);
     }
 
@@ -103,10 +106,10 @@ public final class RandomRunsTest {
 
     /** The Reference is slow, so only some solves of a run are made. */
     private void solve(String at) {
-        solves++;
-        if (solves > 12) {
+        if (solves >= 12) {
             return;
         }
+        solves++;
         boolean loosely = random.nextInt(3) == 0;
         compareAnswers(at + "solve " + loosely, () -> x.solve(loosely), () -> y.solve(loosely));
         compareAnswers(at + "prove", x::prove, y::prove);

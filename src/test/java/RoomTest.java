@@ -23,7 +23,26 @@ public final class RoomTest {
         }
         long made = bean.getCurrentThreadAllocatedBytes() - before;
         Check.due("what 800 calls make, in bytes: " + made, true, () -> made < 20_000);
+        lastCall();
         Check.close();
+    }
+
+    /** An object is used for 512 calls: the last one is as good as the first. */
+    private static void lastCall() {
+        AmountPlanner x = new AmountPlanner();
+        for (int k = 0; k < 25; k++) {
+            dearestCalls(x);
+        }
+        x.start(2);
+        x.cost(0, -5);
+        x.cost(1, -4);
+        x.limit(6, 4, 0, 0, 24);
+        x.limit(1, 2, 0, 0, 6);
+        Check.due("call 506", true, () -> x.solve(true));
+        Check.due("calls 507 to 510", "-21/1: 3/1 3/2", () -> x.total(0) + "/1: " + x.plan(0, 0) + "/1 "
+                + x.plan(1, 0) + "/" + x.plan(1, 1));
+        Check.due("call 511", true, () -> x.solve(false));
+        Check.due("call 512", true, x::prove);
     }
 
     private static void count(Object object) throws IllegalAccessException {
