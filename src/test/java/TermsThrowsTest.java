@@ -1,6 +1,7 @@
 import java.util.ArrayList;
 import java.util.List;
 import java.util.function.Consumer;
+import java.util.function.Supplier;
 
 /** 'Terms': what is thrown, when, what comes first, and that it changes nothing. */
 public final class TermsThrowsTest {
@@ -12,22 +13,52 @@ public final class TermsThrowsTest {
     }
 
     /** How a planner got where it is; told is whether total() answers, proved whether prove() does. */
-    private record Way(String name, boolean told, boolean proved, Consumer<AmountPlanner> last) {
-        AmountPlanner go() {
+    private record Way(String name, int amounts, int limits, boolean told, boolean proved,
+            Supplier<AmountPlanner> go) {
+    }
+
+    private static final Way[] FULL_WAYS = {
+        fullWay("solved", true, true, x -> x.solve(false)),
+        fullWay("solved loosely", true, false, x -> x.solve(true)),
+        fullWay("not solved", false, false, x -> { }),
+        fullWay("changed since it was solved", false, false, TermsThrowsTest::solveAndChange),
+        fullWay("solved without a plan", false, true, TermsThrowsTest::solveWithoutPlan),
+        fullWay("solved loosely without a plan", false, false, TermsThrowsTest::solveLooselyWithoutPlan),
+    };
+
+    private static final Way[] OTHER_WAYS = {
+        new Way("new", 1, 0, false, false, AmountPlanner::new),
+        new Way("new and solved", 1, 0, true, true, TermsThrowsTest::newAndSolved),
+        new Way("four amounts", 4, 1, true, true, TermsThrowsTest::fourAmounts),
+    };
+
+    private static Way fullWay(String name, boolean told, boolean proved, Consumer<AmountPlanner> last) {
+        return new Way(name, 3, 6, told, proved, () -> {
             AmountPlanner x = full();
             last.accept(x);
             return x;
-        }
+        });
     }
 
-    private static final Way[] WAYS = {
-        new Way("solved", true, true, x -> x.solve(false)),
-        new Way("solved loosely", true, false, x -> x.solve(true)),
-        new Way("not solved", false, false, x -> { }),
-        new Way("changed since it was solved", false, false, TermsThrowsTest::solveAndChange),
-        new Way("solved without a plan", false, true, TermsThrowsTest::solveWithoutPlan),
-        new Way("solved loosely without a plan", false, false, TermsThrowsTest::solveLooselyWithoutPlan),
-    };
+    private static AmountPlanner newAndSolved() {
+        AmountPlanner x = new AmountPlanner();
+        x.solve(false);
+        return x;
+    }
+
+    private static AmountPlanner fourAmounts() {
+        AmountPlanner x = new AmountPlanner();
+        x.start(4);
+        x.amount(3, -20, 20, false);
+        x.cost(0, -2);
+        x.cost(3, -1);
+        x.limit(1, 1, 1, 3, 40);
+        x.fork(0, 1, 5, 38, 39);
+        x.end(38, 1, 1, 0, 0, 0, 0, 0);
+        x.end(39, 1, 0, 0, 0, 0, 0, 0);
+        x.solve(false);
+        return x;
+    }
 
     public static void main(String[] args) {
         changesNothing();
@@ -84,40 +115,47 @@ public final class TermsThrowsTest {
 
     private static void changesNothing() {
         Check.sentence(Check.TERMS, "A call that throws changes nothing;");
-        for (Way way : WAYS) {
-            String before = Looks.of(way.go());
-            for (Call refused : refusedCalls(way)) {
-                AmountPlanner x = way.go();
-                String what = way.name() + ", " + refused.name();
-                Check.refused(what, refused.exception(), () -> refused.call().accept(x));
-                Check.refused(what + " again", refused.exception(), () -> refused.call().accept(x));
-                Check.due(what + ": what it looks like after it", before, () -> Looks.of(x));
-            }
+        for (Way way : FULL_WAYS) {
+            changesNothing(way);
+        }
+        for (Way way : OTHER_WAYS) {
+            changesNothing(way);
+        }
+    }
+
+    private static void changesNothing(Way way) {
+        String before = Looks.of(way.go().get());
+        for (Call refused : refusedCalls(way)) {
+            AmountPlanner x = way.go().get();
+            String what = way.name() + ", " + refused.name();
+            Check.refused(what, refused.exception(), () -> refused.call().accept(x));
+            Check.refused(what + " again", refused.exception(), () -> refused.call().accept(x));
+            Check.due(what + ": what it looks like after it", before, () -> Looks.of(x));
         }
     }
 
     private static List<Call> refusedCalls(Way way) {
         List<Call> calls = new ArrayList<>();
-        addProblemCalls(calls);
-        addLimitCalls(calls);
+        addProblemCalls(calls, way);
+        addLimitCalls(calls, way);
         addToldCalls(calls, way);
         addTreeCalls(calls);
         addEndCalls(calls);
         return calls;
     }
 
-    private static void addProblemCalls(List<Call> calls) {
+    private static void addProblemCalls(List<Call> calls, Way way) {
         for (int n : Check.outside(1, 4)) {
             calls.add(new Call("start " + n, ARGUMENT, x -> x.start(n)));
         }
-        for (int j : new int[] {-1, 3, 4, Integer.MIN_VALUE, Integer.MAX_VALUE}) {
+        for (int j : new int[] {-1, way.amounts(), 4, Integer.MIN_VALUE, Integer.MAX_VALUE}) {
             calls.add(new Call("amount " + j, INDEX, x -> x.amount(j, 5, 5, true)));
             calls.add(new Call("amount " + j + ", 0 to 9", INDEX, x -> x.amount(j, 0, 9, true)));
             calls.add(new Call("cost " + j, INDEX, x -> x.cost(j, 5)));
             calls.add(new Call("cost " + j + ", 10", INDEX, x -> x.cost(j, 10)));
         }
         int[][] pairs = {{-21, 5}, {5, 21}, {6, 5}, {Integer.MIN_VALUE, Integer.MAX_VALUE}};
-        for (int j = 0; j < 3; j++) {
+        for (int j = 0; j < way.amounts(); j++) {
             int at = j;
             for (int[] pair : pairs) {
                 calls.add(new Call("amount of " + pair[0] + " to " + pair[1], ARGUMENT,
@@ -131,17 +169,22 @@ public final class TermsThrowsTest {
         }
     }
 
-    private static void addLimitCalls(List<Call> calls) {
-        calls.add(new Call("a seventh limit", STATE, x -> x.limit(1, 1, 1, 0, 1)));
-        calls.add(new Call("a seventh limit of nothing", STATE, x -> x.limit(0, 0, 0, 0, -99)));
+    private static void addLimitCalls(List<Call> calls, Way way) {
+        if (way.limits() == 6) {
+            calls.add(new Call("a seventh limit", STATE, x -> x.limit(1, 1, 1, 0, 1)));
+            calls.add(new Call("a seventh limit of nothing", STATE, x -> x.limit(0, 0, 0, 0, -99)));
+        }
         for (int bad : new int[] {-10, 10}) {
             calls.add(new Call("weight a " + bad, ARGUMENT, x -> x.limit(bad, 0, 0, 0, 1)));
             calls.add(new Call("weight b " + bad, ARGUMENT, x -> x.limit(0, bad, 0, 0, 1)));
             calls.add(new Call("weight c " + bad, ARGUMENT, x -> x.limit(0, 0, bad, 0, 1)));
-            calls.add(new Call("bound " + 10 * bad, ARGUMENT, x -> x.limit(1, 1, 1, 0, 10 * bad)));
-            calls.add(new Call("weight d " + bad / 10, ARGUMENT, x -> x.limit(1, 1, 1, bad / 10, 1)));
+            calls.add(new Call("weight d " + bad, ARGUMENT, x -> x.limit(0, 0, 0, bad, 1)));
+            calls.add(new Call("bound " + 10 * bad, ARGUMENT, x -> x.limit(1, 0, 0, 0, 10 * bad)));
+            if (way.amounts() < 4) {
+                calls.add(new Call("weight d " + bad / 10, ARGUMENT, x -> x.limit(1, 0, 0, bad / 10, 1)));
+            }
         }
-        for (int i : new int[] {-1, 6, 7, Integer.MIN_VALUE, Integer.MAX_VALUE}) {
+        for (int i : new int[] {-1, way.limits(), 6, Integer.MIN_VALUE, Integer.MAX_VALUE}) {
             calls.add(new Call("drop " + i, INDEX, x -> x.drop(i)));
         }
     }
@@ -151,11 +194,11 @@ public final class TermsThrowsTest {
             calls.add(new Call("total " + which, ARGUMENT, x -> x.total(which)));
             calls.add(new Call("plan of 0, " + which, ARGUMENT, x -> x.plan(0, which)));
         }
-        calls.add(new Call("plan of 3", INDEX, x -> x.plan(3, 0)));
+        calls.add(new Call("plan of one too many", INDEX, x -> x.plan(way.amounts(), 0)));
         calls.add(new Call("plan of -1", INDEX, x -> x.plan(-1, 2)));
         if (!way.told()) {
             calls.add(new Call("total", STATE, x -> x.total(0)));
-            calls.add(new Call("plan", STATE, x -> x.plan(2, 1)));
+            calls.add(new Call("plan", STATE, x -> x.plan(way.amounts() - 1, 1)));
         }
         if (!way.proved()) {
             calls.add(new Call("prove", STATE, AmountPlanner::prove));
@@ -212,8 +255,8 @@ public final class TermsThrowsTest {
 
     private static void firstNamedFirst() {
         Check.sentence(Check.TERMS, "of several exceptions the one named first is thrown.");
-        for (Way way : WAYS) {
-            AmountPlanner x = way.go();
+        for (Way way : FULL_WAYS) {
+            AmountPlanner x = way.go().get();
             for (int j : new int[] {-1, 3}) {
                 Check.badIndex("amount: the index, then the numbers", () -> x.amount(j, 21, -21, true));
                 Check.badIndex("amount: the index, then the width", () -> x.amount(j, 0, 9, true));
