@@ -3,6 +3,7 @@ import java.util.concurrent.Callable;
 
 /** What the tests share: answers as texts, and a count of those that are wrong. */
 final class Check {
+    static final int WHAT_IT_IS = -1;
     static final int TERMS = 0;
 
     private static int wrong = 0;
@@ -18,13 +19,18 @@ final class Check {
     }
 
     /**
-     * Begins the test of a sentence of the document: of a promise, or of 'Terms' (TERMS). It is
-     * quoted as it stands there, so that SentencesTest can see that none was left out.
+     * Begins the test of a sentence of the document: of a promise, of 'Terms' (TERMS), or of 'What
+     * it is' (WHAT_IT_IS). It is quoted as it stands there, so that SentencesTest can see that none
+     * was left out.
      */
-    static void sentence(int promise, String quote) {
+    static void sentence(int section, String quote) {
         closeSentence();
-        sentence = (promise == TERMS ? "Terms" : "promise " + promise) + ", '" + quote + "': ";
+        sentence = sectionName(section) + ", '" + quote + "': ";
         lookedBefore = looked;
+    }
+
+    static String sectionName(int section) {
+        return section == WHAT_IT_IS ? "What it is" : section == TERMS ? "Terms" : "Promise " + section;
     }
 
     private static void closeSentence() {

@@ -1,9 +1,8 @@
-import java.lang.reflect.Field;
 import java.util.Random;
 
 /** Promise 15: prove. */
 public final class ProveTest {
-    public static void main(String[] args) throws ReflectiveOperationException {
+    public static void main(String[] args) {
         treeOfItsOwn();
         treeStays();
         notLoosely();
@@ -126,38 +125,79 @@ public final class ProveTest {
         }
     }
 
-    /** From outside prove() is always true, so what was solved is made wrong from inside here. */
-    private static void costOfTheBest() throws ReflectiveOperationException {
+    /** What prove() says there is, can be told, too: see ValueProblem. */
+    private static void costOfTheBest() {
         Check.sentence(15, "for the COST of the BEST plan,");
         Random random = new Random(11);
-        for (int k = 0; k < 300; k++) {
-            AmountPlanner x = new AmountPlanner();
-            x.start(4);
-            for (int j = 0; j < 4; j++) {
-                x.amount(j, -4, 4, random.nextInt(4) > 0);
-                x.cost(j, random.nextInt(19) - 9);
-            }
-            for (int i = 0; i < 6; i++) {
-                x.limit(random.nextInt(19) - 9, random.nextInt(19) - 9, random.nextInt(19) - 9,
-                        random.nextInt(19) - 9, random.nextInt(30));
-            }
+        for (int k = 0; k < 400; k++) {
+            ValueProblem problem = new ValueProblem(random, k % 7, 0, 29);
+            AmountPlanner x = problem.x;
             Check.due("solve", true, () -> x.solve(false));
             Check.due("prove", true, x::prove);
-            Object search = field(AmountPlanner.class, "search").get(x);
-            Field cost = field(search.getClass(), "bestCost");
-            cost.setInt(search, cost.getInt(search) + 1);
-            Check.due("a greater cost is not proved", false, x::prove);
-            cost.setInt(search, cost.getInt(search) - 2);
-            Check.due("a cost below the least is proved, too", true, x::prove);
-            field(search.getClass(), "found").setBoolean(search, false);
-            Check.due("that there is no plan is not proved", false, x::prove);
+            int best = x.total(0);
+            problem.tellTree(best);
+            Check.due("a told tree proves " + best, true, () -> x.sound(best, 1));
+            Check.due("and no more", false, () -> x.sound(best * 1000 + 1, 1000));
+            Check.due("prove", true, x::prove);
         }
     }
 
-    private static Field field(Class<?> type, String name) throws ReflectiveOperationException {
-        Field field = type.getDeclaredField(name);
-        field.setAccessible(true);
-        return field;
+    /** Two whole amounts from 0 to 3, and a tree that forks until each of them has one value. */
+    private static final class ValueProblem {
+        private static final int COST_NODE = 38;
+        private static final int NO_PROOF = 39;
+
+        final AmountPlanner x = new AmountPlanner();
+        private final int[] costs = new int[2];
+        private final int[][] limits;
+
+        ValueProblem(Random random, int size, int leastBound, int greatestBound) {
+            limits = new int[size][];
+            x.start(2);
+            for (int j = 0; j < 2; j++) {
+                costs[j] = random.nextInt(19) - 9;
+                x.amount(j, 0, 3, true);
+                x.cost(j, costs[j]);
+            }
+            for (int i = 0; i < size; i++) {
+                int bound = leastBound + random.nextInt(greatestBound - leastBound + 1);
+                limits[i] = new int[] {random.nextInt(19) - 9, random.nextInt(19) - 9, bound};
+                x.limit(limits[i][0], limits[i][1], 0, 0, bound);
+            }
+        }
+
+        /** 15 FORKS; an END for each limit, of w 0, and one for the cost; NO_PROOF is NOTHING. */
+        void tellTree(int bound) {
+            for (int i = 0; i < 6; i++) {
+                int[] y = new int[6];
+                y[i] = 1;
+                x.end(limitNode(i), 0, y[0], y[1], y[2], y[3], y[4], y[5]);
+            }
+            x.end(COST_NODE, 1, 0, 0, 0, 0, 0, 0);
+            // Nodes 0 to 2 part amount 0, and from 3 on three each part amount 1 for one value of it.
+            for (int a = 0; a < 3; a++) {
+                x.fork(a, 0, a, 3 + 3 * a, a < 2 ? a + 1 : 12);
+            }
+            for (int a = 0; a < 4; a++) {
+                for (int b = 0; b < 3; b++) {
+                    int node = 3 + 3 * a + b;
+                    x.fork(node, 1, b, endOf(a, b, bound), b < 2 ? node + 1 : endOf(a, 3, bound));
+                }
+            }
+        }
+
+        private static int limitNode(int i) {
+            return 32 + i;
+        }
+
+        private int endOf(int a, int b, int bound) {
+            for (int i = 0; i < limits.length; i++) {
+                if (limits[i][0] * a + limits[i][1] * b > limits[i][2]) {
+                    return limitNode(i);
+                }
+            }
+            return costs[0] * a + costs[1] * b >= bound ? COST_NODE : NO_PROOF;
+        }
     }
 
     private static void noPlan() {
@@ -184,6 +224,26 @@ public final class ProveTest {
         one.limit(1, 0, 0, 0, -1);
         Check.due("one value, no plan", false, () -> one.solve(false));
         Check.due("prove", true, one::prove);
+        noPlanOfTwo();
+    }
+
+    private static void noPlanOfTwo() {
+        Random random = new Random(12);
+        int without = 0;
+        for (int k = 0; k < 400; k++) {
+            ValueProblem problem = new ValueProblem(random, 1 + k % 6, -20, 9);
+            AmountPlanner x = problem.x;
+            if (!x.solve(false)) {
+                without++;
+                Check.due("prove", true, x::prove);
+                problem.tellTree(1000);
+                x.clear(ValueProblem.COST_NODE);
+                Check.due("a told tree with ENDS of w 0 alone", true, () -> x.sound(1000000, 1));
+                Check.due("prove", true, x::prove);
+            }
+        }
+        int count = without;
+        Check.due("there were some without a plan", true, () -> count > 100);
     }
 
     private static void alwaysSound() {

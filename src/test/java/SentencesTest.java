@@ -10,8 +10,8 @@ import java.util.regex.Matcher;
 import java.util.regex.Pattern;
 
 /**
- * That no sentence of 'Terms' and of the promises was left out: every word of them is quoted by a
- * test, and every quote stands in the document, in its own section.
+ * That no sentence of 'What it is', of 'Terms' and of the promises was left out: every word of them
+ * is quoted by a test, and every quote stands in the document, in its own section.
  */
 public final class SentencesTest {
     private static final Path DOCUMENT = Path.of("../shared/DOC.md");
@@ -19,29 +19,30 @@ public final class SentencesTest {
     private static final int PROMISES = 15;
 
     private static final Pattern SECTION =
-            Pattern.compile("^## (Terms|Promise (\\d+): [^\\n]*)\\n(.*?)(?=^## |\\z)", Pattern.MULTILINE | Pattern.DOTALL);
+            Pattern.compile("^## ([^:\\n]*)[^\\n]*\\n(.*?)(?=^## |\\z)", Pattern.MULTILINE | Pattern.DOTALL);
     private static final Pattern QUOTE =
-            Pattern.compile("Check\\.sentence\\((Check\\.TERMS|\\d+),\\s*((?:\"[^\"]*\"[\\s+]*)+)\\);");
+            Pattern.compile("Check\\.sentence\\((Check\\.\\w+|\\d+),\\s*((?:\"[^\"]*\"[\\s+]*)+)\\);");
 
-    private record Quote(String test, int promise, String text) {
+    private record Quote(String test, String section, String text) {
     }
 
     public static void main(String[] args) throws IOException {
-        Map<Integer, String> sections = sections();
-        Check.due("the sections", PROMISES + 1, sections::size);
-        List<Quote> quotes = quotes();
-        Map<Integer, StringBuilder> left = new TreeMap<>();
-        sections.forEach((promise, text) -> left.put(promise, new StringBuilder(text)));
-        for (Quote quote : quotes) {
-            String section = sections.getOrDefault(quote.promise(), "");
-            int at = section.indexOf(quote.text());
+        Map<String, String> sections = sections();
+        Map<String, StringBuilder> left = new TreeMap<>();
+        for (int section = Check.WHAT_IT_IS; section <= PROMISES; section++) {
+            String name = Check.sectionName(section);
+            Check.due("the document has a section " + name, true, () -> sections.containsKey(name));
+            left.put(name, new StringBuilder(sections.getOrDefault(name, "")));
+        }
+        for (Quote quote : quotes()) {
+            int at = sections.getOrDefault(quote.section(), "").indexOf(quote.text());
             Check.due(quote + " stands in the document", true, () -> at >= 0);
             if (at >= 0) {
-                blank(left.get(quote.promise()), at, quote.text().length());
+                blank(left.get(quote.section()), at, quote.text().length());
             }
         }
-        left.forEach((promise, text) ->
-                Check.due("what no test quotes of promise " + promise, "", () -> text.toString().trim()));
+        left.forEach((name, text) ->
+                Check.due("what no test quotes of " + name, "", () -> text.toString().trim()));
         Check.close();
     }
 
@@ -51,14 +52,13 @@ public final class SentencesTest {
         }
     }
 
-    /** The texts by promise, 'Terms' as 0, without what the public face says and with single blanks. */
-    private static Map<Integer, String> sections() throws IOException {
-        Map<Integer, String> sections = new TreeMap<>();
+    /** The texts by section, without what the public face says and with single blanks. */
+    private static Map<String, String> sections() throws IOException {
+        Map<String, String> sections = new TreeMap<>();
         Matcher matcher = SECTION.matcher(Files.readString(DOCUMENT));
         while (matcher.find()) {
-            int promise = matcher.group(2) == null ? Check.TERMS : Integer.parseInt(matcher.group(2));
-            String text = matcher.group(3).replaceAll("```(text)?", " ").replaceAll("`[^`]*`: ", " ");
-            sections.put(promise, text.replaceAll("\\s+", " "));
+            String text = matcher.group(2).replaceAll("```(text)?", " ").replaceAll("`[^`]*`: ", " ");
+            sections.put(matcher.group(1), text.replaceAll("\\s+", " "));
         }
         return sections;
     }
@@ -69,12 +69,20 @@ public final class SentencesTest {
             for (Path file : files) {
                 Matcher matcher = QUOTE.matcher(Files.readString(file));
                 while (matcher.find()) {
-                    int promise = matcher.group(1).startsWith("C") ? Check.TERMS : Integer.parseInt(matcher.group(1));
                     String text = matcher.group(2).trim().replaceAll("\"\\s*\\+\\s*\"", "");
-                    quotes.add(new Quote(file.getFileName().toString(), promise, text.substring(1, text.length() - 1)));
+                    quotes.add(new Quote(file.getFileName().toString(), Check.sectionName(section(matcher.group(1))),
+                            text.substring(1, text.length() - 1)));
                 }
             }
         }
         return quotes;
+    }
+
+    private static int section(String written) {
+        return switch (written) {
+            case "Check.WHAT_IT_IS" -> Check.WHAT_IT_IS;
+            case "Check.TERMS" -> Check.TERMS;
+            default -> Integer.parseInt(written);
+        };
     }
 }
